@@ -448,7 +448,7 @@ public final class ValueTrees {
 
     // ---- order
 
-    private static int sign(int a, int b) {
+    private static int intOrder(int a, int b) {
         if (a == b) {
             return 0;
         }
@@ -469,7 +469,7 @@ public final class ValueTrees {
                 other = right.second;
             } else if (one instanceof Choice left && other instanceof Choice right) {
                 if (left.side != right.side) {
-                    return sign(left.side, right.side);
+                    return intOrder(left.side, right.side);
                 }
                 one = left.inside;
                 other = right.inside;
@@ -510,10 +510,10 @@ public final class ValueTrees {
         int shorter = Math.min(a.count, b.count);
         for (int i = 0; i < shorter; i++) {
             if (a.letter(i) != b.letter(i)) {
-                return sign(a.letter(i), b.letter(i));
+                return intOrder(a.letter(i), b.letter(i));
             }
         }
-        return sign(a.count, b.count);
+        return intOrder(a.count, b.count);
     }
 
     // ---- sets and maps, inside
@@ -616,7 +616,7 @@ public final class ValueTrees {
             this.digits = digits;
         }
 
-        // Six bits have room in the head and each digit takes seven more: one past a multiple of seven fills the next.
+        // A digit for each seven bits above the lowest six, a begun seven too, is (bits - 6 + 6) / 7 of them.
         private static int lengthOf(int bits) {
             return SHORT_HEAD + bits / 7;
         }

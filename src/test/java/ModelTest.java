@@ -77,13 +77,37 @@ public final class ModelTest {
         return t;
     }
 
-    /** A register that has something of a type, if there is one. */
+    /** A register that has something of a type; if there is none, a simple one is made for it. */
     private int registerWith(int type) {
         int r = register();
         for (int tries = 0; tries < 40 && m.typeOf(r) != type; tries++) {
             r = random.nextInt(registers);
         }
+        if (type >= 0 && m.typeOf(r) != type) {
+            makeSome(r, type, 0);
+        }
         return r;
+    }
+
+    private void makeSome(int r, int type, int depth) {
+        int word = m.ofType(type, 0);
+        if (word <= 1) {
+            simple(r, word == 0 ? 0 : 1 + random.nextInt(2));
+        } else if (word == 5 || word == 6) {
+            bytes(r, type, value(), random.nextInt(9));
+        } else if (word <= 8) {
+            number(r, type, value());
+        } else if (depth < 3 && (word == 14 || word == 10 && random.nextInt(4) != 0)) {
+            int side = word == 10 ? 0 : random.nextInt(2);
+            makeSome(r, m.ofType(type, 1 + side), depth + 1);
+            wrap(r, type, side, r);
+        } else if (depth < 3 && word == 18) {
+            makeSome(r, m.ofType(type, 1), depth + 1);
+            makeSome(15, m.ofType(type, 2), depth + 1);
+            pair(r, r, 15);
+        } else {
+            empty(r, type);
+        }
     }
 
     private int registerOfWord(int low, int high) {
@@ -115,6 +139,32 @@ public final class ModelTest {
 
     private void type(int word, int left, int right) {
         due(0, "type(" + word + ", " + left + ", " + right + ")", x.type(word, left, right), m.type(word, left, right));
+    }
+
+    private void number(int r, int type, long v) {
+        due(2, "number(" + r + ", " + type + ", " + v + ")", x.number(r, type, v), m.number(r, type, v));
+    }
+
+    private void bytes(int r, int type, long letters, int n) {
+        due(4, "bytes(" + r + ", " + type + ", " + letters + ", " + n + ")",
+                x.bytes(r, type, letters, n), m.bytes(r, type, letters, n));
+    }
+
+    private void simple(int r, int what) {
+        due(5, "simple(" + r + ", " + what + ")", x.simple(r, what), m.simple(r, what));
+    }
+
+    private void empty(int r, int type) {
+        due(6, "empty(" + r + ", " + type + ")", x.empty(r, type), m.empty(r, type));
+    }
+
+    private void wrap(int r, int type, int side, int from) {
+        due(7, "wrap(" + r + ", " + type + ", " + side + ", " + from + ")",
+                x.wrap(r, type, side, from), m.wrap(r, type, side, from));
+    }
+
+    private void pair(int r, int a, int b) {
+        due(8, "pair(" + r + ", " + a + ", " + b + ")", x.pair(r, a, b), m.pair(r, a, b));
     }
 
     private void drawnCall() {
@@ -156,7 +206,7 @@ public final class ModelTest {
             case 2: {
                 int[] types = {2, 3, 4, 8, t, 2, 3};
                 int type = types[random.nextInt(types.length)];
-                due(2, "number(" + r + ", " + type + ", " + v + ")", x.number(r, type, v), m.number(r, type, v));
+                number(r, type, v);
                 return;
             }
             case 3: {
@@ -167,19 +217,11 @@ public final class ModelTest {
             case 4: {
                 int type = random.nextInt(8) == 0 ? t : 5 + random.nextInt(2);
                 int count = random.nextInt(11) - 1;
-                due(4, "bytes(" + r + ", " + type + ", " + v + ", " + count + ")",
-                        x.bytes(r, type, v, count), m.bytes(r, type, v, count));
+                bytes(r, type, v, count);
                 return;
             }
-            case 5: {
-                int what = small();
-                due(5, "simple(" + r + ", " + what + ")", x.simple(r, what), m.simple(r, what));
-                return;
-            }
-            default: {
-                int type = typeOfWord(10, 16);
-                due(6, "empty(" + r + ", " + type + ")", x.empty(r, type), m.empty(r, type));
-            }
+            case 5: simple(r, small()); return;
+            default: empty(r, typeOfWord(10, 16));
         }
     }
 
@@ -190,16 +232,10 @@ public final class ModelTest {
                 int type = typeOfWord(10, 14);
                 int side = random.nextInt(9) == 0 ? small() : random.nextInt(2);
                 int from = registerWith(m.ofType(type, side + 1));
-                due(7, "wrap(" + r + ", " + type + ", " + side + ", " + from + ")",
-                        x.wrap(r, type, side, from), m.wrap(r, type, side, from));
+                wrap(r, type, side, from);
                 return;
             }
-            case 1: {
-                int a = register();
-                int b = register();
-                due(8, "pair(" + r + ", " + a + ", " + b + ")", x.pair(r, a, b), m.pair(r, a, b));
-                return;
-            }
+            case 1: pair(r, register(), register()); return;
             case 2: {
                 int list = registerOfWord(11, 11);
                 int from = registerWith(m.ofType(m.typeOf(list), 1));
@@ -241,7 +277,7 @@ public final class ModelTest {
             }
             case 2: {
                 int tree = registerOfWord(12, 16);
-                int i = small();
+                int i = m.many(tree) > 1 ? random.nextInt(m.many(tree)) : small();
                 int which = random.nextInt(9) == 0 ? small() : random.nextInt(2);
                 due(14, "at(" + r + ", " + tree + ", " + i + ", " + which + ")",
                         x.at(r, tree, i, which), m.at(r, tree, i, which));
