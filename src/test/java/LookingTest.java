@@ -1,6 +1,5 @@
 /** Promises 19 to 27: typeOf, length, which, many, digit, isBelow, byteAt, has, compare. */
 public final class LookingTest {
-    private static final int[] NO_REGISTERS = {Integer.MIN_VALUE, -2, -1, 16, 17, Integer.MAX_VALUE};
     private static final int KINDS = 15;
 
     public static void main(String[] args) {
@@ -20,38 +19,8 @@ public final class LookingTest {
         Due.end();
     }
 
-    /** One of each kind: unit, false, true, number, row, none, some, left, right, pair, list, set, map, big_map, nothing. */
-    private static ValueTrees oneOfEachKind() {
-        ValueTrees x = new ValueTrees();
-        int option = x.type(10, 2, 0);
-        int or = x.type(14, 2, 2);
-        int list = x.type(11, 2, 0);
-        int set = x.type(12, 2, 0);
-        int map = x.type(15, 2, 2);
-        int big = x.type(16, 2, 2);
-        x.simple(0, 0);
-        x.simple(1, 1);
-        x.simple(2, 2);
-        x.number(3, 2, -7);
-        x.bytes(4, 6, 0x4241, 2);
-        x.empty(5, option);
-        x.wrap(6, option, 0, 3);
-        x.wrap(7, or, 0, 3);
-        x.wrap(8, or, 1, 3);
-        x.pair(9, 3, 4);
-        x.empty(10, list);
-        x.cons(10, 3, 10);
-        x.empty(11, set);
-        x.put(11, 11, 3, 0);
-        x.empty(12, map);
-        x.put(12, 12, 3, 3);
-        x.empty(13, big);
-        x.put(13, 13, 3, 3);
-        return x;
-    }
-
     private static void eachKindLookedAt() {
-        ValueTrees x = oneOfEachKind();
+        ValueTrees x = Make.oneOfEach();
         int[] types = {0, 1, 1, 2, 6, 10, 10, 11, 11, 16, 12, 13, 14, 15, -1};
         int[] lengths = {2, 2, 2, 2, 7, 2, 4, 4, 4, 11, 7, 7, 11, 11, -1};
         int[] whichs = {-1, 0, 1, -1, -1, 0, 1, 0, 1, -1, -1, -1, -1, -1, -1};
@@ -71,8 +40,8 @@ public final class LookingTest {
     }
 
     private static void noRegisters() {
-        ValueTrees x = oneOfEachKind();
-        for (int r : NO_REGISTERS) {
+        ValueTrees x = Make.oneOfEach();
+        for (int r : Make.NO_REGISTERS) {
             Due.is("typeOf(" + r + ")", x.typeOf(r), -1);
             Due.is("length(" + r + ")", x.length(r), -1);
             Due.is("which(" + r + ")", x.which(r), -1);
@@ -137,7 +106,7 @@ public final class LookingTest {
     }
 
     private static void hasNone() {
-        ValueTrees x = oneOfEachKind();
+        ValueTrees x = Make.oneOfEach();
         x.number(15, 3, 7);
         for (int tree = 11; tree <= 13; tree++) {
             Due.is("a key of another type", x.has(tree, 15), -1);

@@ -1,7 +1,5 @@
 /** Promises 4 to 13: number, times, bytes, simple, empty, wrap, pair, cons, put, remove. */
 public final class MakingTest {
-    private static final int[] NO_REGISTERS = {Integer.MIN_VALUE, -2, -1, 16, 17, Integer.MAX_VALUE};
-
     public static void main(String[] args) {
         numbersOfTheFourTypes();
         lengthsOfNumbers();
@@ -455,7 +453,7 @@ public final class MakingTest {
         x.number(0, 2, 1);
         x.empty(1, list);
         x.empty(2, set);
-        for (int r : NO_REGISTERS) {
+        for (int r : Make.NO_REGISTERS) {
             Due.is("number", x.number(r, 2, 1), -1);
             Due.is("times", x.times(r, 0, 1), -1);
             Due.is("times from", x.times(3, r, 1), -1);

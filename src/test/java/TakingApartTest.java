@@ -1,7 +1,5 @@
 /** Promises 14 to 18: part, get, at, move, clear. */
 public final class TakingApartTest {
-    private static final int[] NO_REGISTERS = {Integer.MIN_VALUE, -2, -1, 16, 17, Integer.MAX_VALUE};
-
     public static void main(String[] args) {
         partsOfChoices();
         partsOfPairs();
@@ -198,7 +196,7 @@ public final class TakingApartTest {
         Due.is("typeOf(0)", x.typeOf(0), -1);
         Due.is("length(15) as it was", x.length(15), 3);
         Due.yes("move of nothing to nothing", x.move(1, 2));
-        for (int r : NO_REGISTERS) {
+        for (int r : Make.NO_REGISTERS) {
             Due.no("move(" + r + ", 15)", x.move(r, 15));
             Due.no("move(15, " + r + ")", x.move(15, r));
             Due.no("move(" + r + ", " + r + ")", x.move(r, r));
@@ -211,7 +209,7 @@ public final class TakingApartTest {
         for (int r = 0; r < 16; r++) {
             x.simple(r, 0);
         }
-        for (int r : NO_REGISTERS) {
+        for (int r : Make.NO_REGISTERS) {
             Due.no("clear(" + r + ")", x.clear(r));
         }
         for (int r = 0; r < 16; r++) {
@@ -229,7 +227,7 @@ public final class TakingApartTest {
         x.pair(1, 0, 0);
         x.empty(2, x.type(15, 2, 2));
         x.put(2, 2, 0, 0);
-        for (int r : NO_REGISTERS) {
+        for (int r : Make.NO_REGISTERS) {
             Due.is("part", x.part(r, 1, 0), -1);
             Due.is("part from", x.part(3, r, 0), -1);
             Due.is("get", x.get(r, 2, 0), -1);
