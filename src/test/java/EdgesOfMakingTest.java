@@ -102,6 +102,8 @@ public final class EdgesOfMakingTest {
         }
         x.number(3, 2, 0);
         Due.is("0 times 2^1000", x.times(3, 3, 1000), 2);
+        x.number(4, 2, 0);
+        Due.is("is 0", x.compare(3, 4), 0);
         Due.is("digit 62", x.digit(3, 62), 0);
         Due.no("below 0", x.isBelow(3));
     }
@@ -210,6 +212,8 @@ public final class EdgesOfMakingTest {
                 Due.is("many(0)", x.many(0), n);
                 Due.is("the last byte", x.byteAt(0, n - 1), n == 0 ? -1 : 255);
                 Due.is("the byte behind it", x.byteAt(0, n), -1);
+                x.bytes(1, t, n == 8 ? -1 : (1L << 8 * n) - 1, n);
+                Due.is("the same without what lies above", x.compare(0, 1), 0);
             }
             Refused.none("bytes of -1", x -> x.bytes(0, t, 1, 1), x -> x.bytes(0, t, -1, -1));
             Refused.none("bytes of 9", x -> x.bytes(0, t, 1, 1), x -> x.bytes(0, t, -1, 9));
